@@ -12,6 +12,7 @@ public final class CanoesTest {
         lastDay();
         hundredAndTwentyCanoes();
         losing();
+        losingEachWare();
         spoiling();
         going();
         frozenWays();
@@ -207,6 +208,7 @@ public final class CanoesTest {
         CHECK.due("it is lost", x.canoe(0, 4), 2);
         x.go(3);
         CHECK.due("it never comes", x.canoe(0, 4), 2);
+        CHECK.due("no days to go yet", x.canoe(0, 3), 0);
         CHECK.due("canoe(0, 6)", x.canoe(0, 6), -1);
         CHECK.due("told(1, 1)", x.told(1, 1), 0);
         CHECK.due("send with nothing", x.send(0, 0), 1);
@@ -219,6 +221,20 @@ public final class CanoesTest {
         }
         CHECK.due("lose(3)", x.lose(3), -1);
         CHECK.due("lose(120)", x.lose(120), -1);
+    }
+
+    private static void losingEachWare() {
+        FurPosts x = Check.row(2);
+        for (int ware = 0; ware < 6; ware++) {
+            x.store(0, ware, 9);
+            x.load(ware, ware + 1);
+        }
+        x.send(0, 0);
+        CHECK.due("lose(0)", x.lose(0), 21);
+        for (int ware = 0; ware < 6; ware++) {
+            CHECK.due("count(" + ware + ", 4)", x.count(ware, 4), ware + 1);
+            CHECK.due("canoe(0, 1" + ware + ")", x.canoe(0, 10 + ware), 0);
+        }
     }
 
     private static void spoiling() {
@@ -277,6 +293,7 @@ public final class CanoesTest {
         CHECK.due("told(1, 0)", x.told(1, 0), 2);
         CHECK.due("go(400)", x.go(400), 403);
         CHECK.due("canoe(1, 6)", x.canoe(1, 6), 3);
+        CHECK.due("canoe(0, 3), long behind it", x.canoe(0, 3), 0);
         CHECK.due("told(1, 0), once", x.told(1, 0), 2);
     }
 

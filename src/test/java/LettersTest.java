@@ -16,6 +16,7 @@ public final class LettersTest {
         lettersInTheOrderOfWriting();
         canoesOfADayByNumbers();
         lettersLost();
+        lettersThatAreNotLost();
         CHECK.end();
     }
 
@@ -144,6 +145,10 @@ public final class LettersTest {
         CHECK.due("known(1, 1, 6)", x.known(1, 1, 6), -1);
         CHECK.due("known(3, 3, 0)", x.known(3, 3, 0), -1);
         CHECK.due("known(1, 3, 0)", x.known(1, 3, 0), -1);
+        CHECK.due("known(1, 8, 0)", x.known(1, 8, 0), -1);
+        CHECK.due("known(8, 1, 0)", x.known(8, 1, 0), -1);
+        CHECK.due("knownDay(1, 8)", x.knownDay(1, 8), -1);
+        CHECK.due("knownDay(8, 1)", x.knownDay(8, 1), -1);
         CHECK.due("knownDay(3, 3)", x.knownDay(3, 3), -1);
         for (int bad : FAR_OFF) {
             CHECK.due("known(" + bad + ", 0, 0)", x.known(bad, 0, 0), -1);
@@ -327,5 +332,23 @@ public final class LettersTest {
         CHECK.due("no debt was in it", x.count(-1, 5), 0);
         x.send(0, 0);
         CHECK.due("canoe(1, 7)", x.canoe(1, 7), 0);
+    }
+
+    private static void lettersThatAreNotLost() {
+        FurPosts x = Check.row(2);
+        x.store(0, 0, 9);
+        x.sell(0, 0, 0, 1);
+        x.sell(0, 1, 0, 2);
+        x.debt(0, 1, 0);
+        x.send(0, 0);
+        x.send(0, 0);
+        x.debt(0, 1, 1);
+        x.lose(1);
+        CHECK.due("the lost canoe had no debt", x.count(-1, 5), 0);
+        CHECK.due("what lies in the bag is there", x.told(0, 6), 1);
+        x.send(0, 0);
+        x.go(1);
+        CHECK.due("the other canoe's debt came", x.owes(1, 0), 1);
+        CHECK.due("the bag's debt came", x.owes(1, 1), 2);
     }
 }
