@@ -24,9 +24,9 @@ public final class LanguageTest {
         "int quarrel(int, int)", "int canoe(int, int)", "int told(int, int)", "int count(int, int)",
     };
     private static final String[] FORBIDDEN = {
-        "\\bthrow\\b", "\\bthrows\\b", "\\btry\\b", "\\bcatch\\b", "\\bsynchronized\\b", "\\bassert\\b", "->", "::",
-        "\\bpackage\\b", "\\bstatic\\s*\\{", "Exact\\b", "\\bvar\\b", "\\bHashMap\\b", "\\bObject\\b", "\\brecord\\b",
-        "\\bRandom\\b", "\\bThread\\b", "currentTimeMillis", "nanoTime", "@",
+        "\\bthrow\\b", "\\bthrows\\b", "\\btry\\b", "\\bcatch\\b", "\\bsynchronized\\b", "\\bassert\\b", "::",
+        "(?m)^(?!\\s*(case|default)\\b).*->", "\\bpackage\\b", "\\bstatic\\s*\\{", "Exact\\b", "\\bHashMap\\b",
+        "\\bRandom\\b", "\\bThread\\b", "currentTimeMillis", "nanoTime",
     };
     private static final String[] IMPORTS = {
         "java.util.Arrays", "java.util.ArrayList", "java.util.List", "java.util.Iterator",

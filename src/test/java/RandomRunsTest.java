@@ -1,5 +1,6 @@
 import java.lang.reflect.InvocationTargetException;
 import java.lang.reflect.Method;
+import java.lang.reflect.Modifier;
 import java.util.ArrayList;
 import java.util.Arrays;
 import java.util.HashMap;
@@ -9,8 +10,9 @@ import java.util.Random;
 
 /** All promises at once: random runs of calls, each answer against PlainModel's, and no call throws. */
 public final class RandomRunsTest {
-    private static final int RUNS = 400;
+    private static final int RUNS = 1500;
     private static final int CALLS = 512;
+    private static final int LONGEST_RUN = 420;
     private static final int WRONG_SHOWN = 5;
     private static final int[] WILD = {Integer.MIN_VALUE, -1000000, -2, -1, 6, 8, 12, 21, 100, 101, 120, 300, 365, 500,
         501, 1000, 1001, 10000, 10001, 1000364, Integer.MAX_VALUE};
@@ -26,11 +28,17 @@ public final class RandomRunsTest {
         "count 3 countable fact",
     };
 
-    private final FurPosts made = new FurPosts();
+    private static final Map<String, Method> OF_MADE = methods(FurPosts.class);
+    private static final Map<String, Method> OF_MODEL = methods(PlainModel.class);
+
+    private record Made(String name, Object[] args) {
+    }
+
     private final PlainModel model = new PlainModel();
     private final Random random;
     private final int wildness;
-    private final List<String> log = new ArrayList<>();
+    private final List<Made> calls = new ArrayList<>();
+    private final List<Made> questions = new ArrayList<>();
     private boolean wrong;
 
     private RandomRunsTest(int seed) {
@@ -39,12 +47,11 @@ public final class RandomRunsTest {
     }
 
     public static void main(String[] args) throws ReflectiveOperationException {
-        Map<String, Method> ofMade = methods(FurPosts.class);
-        Map<String, Method> ofModel = methods(PlainModel.class);
         int wrongRuns = 0;
         for (int seed = 0; seed < RUNS && wrongRuns < WRONG_SHOWN; seed++) {
             RandomRunsTest run = new RandomRunsTest(seed);
-            run.play(ofMade, ofModel);
+            run.play();
+            run.askAll();
             wrongRuns += run.wrong ? 1 : 0;
         }
         System.out.println("RandomRunsTest: " + RUNS + " runs, " + wrongRuns + " not as due");
@@ -56,47 +63,47 @@ public final class RandomRunsTest {
     private static Map<String, Method> methods(Class<?> of) {
         Map<String, Method> found = new HashMap<>();
         for (Method m : of.getDeclaredMethods()) {
-            if (java.lang.reflect.Modifier.isPublic(m.getModifiers())) {
+            if (Modifier.isPublic(m.getModifiers())) {
                 found.put(m.getName(), m);
             }
         }
         return found;
     }
 
-    private void play(Map<String, Method> ofMade, Map<String, Method> ofModel) throws ReflectiveOperationException {
+    private void play() throws ReflectiveOperationException {
         List<String> deck = new ArrayList<>();
         for (String line : CALLS_MADE) {
             for (int i = Integer.parseInt(line.split(" ")[1]); i > 0; i--) {
                 deck.add(line);
             }
         }
-        int posts = 2 + random.nextInt(7);
-        for (int i = 0; i < posts; i++) {
-            ask(ofMade, ofModel, "post");
-        }
-        for (int i = 1; i < posts; i++) {
-            ask(ofMade, ofModel, "way", random.nextInt(i), i, anArgument("what"), anArgument("bears"));
-        }
-        rightWants(ofMade, ofModel);
-        for (int i = 0; i < CALLS && !wrong; i++) {
+        FurPosts made = new FurPosts();
+        prepare(made);
+        int length = calls.size() + 1 + random.nextInt(LONGEST_RUN - calls.size());
+        while (calls.size() < length && !wrong) {
             String[] line = deck.get(random.nextInt(deck.size())).split(" ");
             Object[] args = new Object[line.length - 2];
             for (int a = 0; a < args.length; a++) {
                 args[a] = random.nextInt(wildness) == 0 ? WILD[random.nextInt(WILD.length)] : anArgument(line[a + 2]);
             }
-            ask(ofMade, ofModel, line[0], args);
-            if (i % 64 == 63) {
-                askAll(ofMade, ofModel);
-            }
+            make(made, line[0], args);
         }
     }
 
-    private void rightWants(Map<String, Method> ofMade, Map<String, Method> ofModel) throws ReflectiveOperationException {
+    /** Posts that are joined, and wants that are right. */
+    private void prepare(FurPosts made) throws ReflectiveOperationException {
+        int posts = 2 + random.nextInt(7);
+        for (int i = 0; i < posts; i++) {
+            make(made, "post");
+        }
+        for (int i = 1; i < posts; i++) {
+            make(made, "way", random.nextInt(i), i, anArgument("what"), anArgument("bears"));
+        }
         for (int ware = 0; ware < 6; ware++) {
             int left = 1000;
             for (int i = 0; i < 4; i++) {
                 int parts = i == 3 ? left : random.nextInt(left + 1);
-                ask(ofMade, ofModel, "want", ware, i * 5 + random.nextInt(5), parts);
+                make(made, "want", ware, i * 5 + random.nextInt(5), parts);
                 left -= parts;
             }
         }
@@ -133,53 +140,72 @@ public final class RandomRunsTest {
         return days * 1000000 + first * 1000 + last;
     }
 
-    /** Whatever can be asked without a change. */
-    private void askAll(Map<String, Method> ofMade, Map<String, Method> ofModel) throws ReflectiveOperationException {
+    /** The run is made again for each lot of questions: behind 512 calls an answer is free. */
+    private void askAll() throws ReflectiveOperationException {
+        listQuestions();
+        int asked = 0;
+        while (asked < questions.size() && !wrong) {
+            FurPosts made = new FurPosts();
+            for (Made call : calls) {
+                answer(made, call);
+            }
+            int end = Math.min(questions.size(), asked + CALLS - calls.size());
+            for (; asked < end && !wrong; asked++) {
+                compare(made, questions.get(asked));
+            }
+        }
+    }
+
+    private void listQuestions() {
         for (int i = -1; i <= 8; i++) {
             for (int what = -1; what <= 8; what++) {
-                ask(ofMade, ofModel, "told", i, what);
-                ask(ofMade, ofModel, "count", i, what);
-                ask(ofMade, ofModel, "next", i, what);
-                ask(ofMade, ofModel, "quarrel", i, what);
-                ask(ofMade, ofModel, "knownDay", i, what);
-                ask(ofMade, ofModel, "price", i, what);
-                ask(ofMade, ofModel, "known", i, what, 0);
-                ask(ofMade, ofModel, "known", i, what, 2);
+                for (String name : List.of("told", "count", "next", "quarrel", "knownDay", "price")) {
+                    question(name, i, what);
+                }
+                question("known", i, what, 0);
+                question("known", i, what, 2);
             }
             for (int hunter = -1; hunter <= 12; hunter++) {
-                ask(ofMade, ofModel, "owes", i, hunter);
+                question("owes", i, hunter);
             }
             for (int ware = 0; ware < 6; ware++) {
-                ask(ofMade, ofModel, "indent", i, ware, 7, 4);
-                ask(ofMade, ofModel, "cost", i, ware, 7, 4, 9);
+                question("indent", i, ware, 7, 4);
+                question("cost", i, ware, 7, 4, 9);
             }
         }
         for (int c = 0; c <= model.count(-1, 3); c++) {
             for (int what = 0; what <= 26; what++) {
-                ask(ofMade, ofModel, "canoe", c, what);
+                question("canoe", c, what);
             }
         }
     }
 
-    private void ask(Map<String, Method> ofMade, Map<String, Method> ofModel, String name, Object... args)
-            throws ReflectiveOperationException {
-        if (wrong) {
-            return;
-        }
-        Object due = ofModel.get(name).invoke(model, args);
-        Object got = answer(ofMade.get(name), args);
-        log.add(name + Arrays.toString(args) + " = " + got);
+    private void question(String name, Object... args) {
+        questions.add(new Made(name, args));
+    }
+
+    private void make(FurPosts made, String name, Object... args) throws ReflectiveOperationException {
+        Made call = new Made(name, args);
+        calls.add(call);
+        compare(made, call);
+    }
+
+    private void compare(FurPosts made, Made call) throws ReflectiveOperationException {
+        Object due = OF_MODEL.get(call.name).invoke(model, call.args);
+        Object got = answer(made, call);
         if (!due.equals(got)) {
             wrong = true;
-            System.out.println("RandomRunsTest: a run of " + log.size() + " calls, its last ones:");
-            log.subList(Math.max(0, log.size() - 12), log.size()).forEach(System.out::println);
-            System.out.println("due is " + due);
+            System.out.println("RandomRunsTest: a run of " + calls.size() + " calls, its last ones:");
+            for (Made last : calls.subList(Math.max(0, calls.size() - 12), calls.size())) {
+                System.out.println(last.name + Arrays.toString(last.args));
+            }
+            System.out.println(call.name + Arrays.toString(call.args) + " answered " + got + ", due is " + due);
         }
     }
 
-    private Object answer(Method method, Object[] args) throws IllegalAccessException {
+    private static Object answer(FurPosts made, Made call) throws IllegalAccessException {
         try {
-            return method.invoke(made, args);
+            return OF_MADE.get(call.name).invoke(made, call.args);
         } catch (InvocationTargetException e) {
             return e.getCause();
         }
