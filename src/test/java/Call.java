@@ -75,8 +75,11 @@ final class Call {
 
     /** What the call answers when it is refused. */
     long refusal() {
-        boolean isZero = method.getReturnType() == boolean.class || method.getName().equals("owes");
-        return isZero ? 0 : FurPosts.NONE;
+        return answersBoolean() || method.getName().equals("owes") ? 0 : FurPosts.NONE;
+    }
+
+    boolean answersBoolean() {
+        return method.getReturnType() == boolean.class;
     }
 
     @Override

@@ -1,7 +1,9 @@
 import java.io.IOException;
 import java.nio.file.Files;
 import java.nio.file.Path;
+import java.util.ArrayList;
 import java.util.LinkedHashMap;
+import java.util.List;
 import java.util.Map;
 
 /** The sections of ../shared/DOC.md that the tests quote, and what of them has been quoted. */
@@ -11,9 +13,11 @@ final class Document {
 
     private final Map<String, String> texts = new LinkedHashMap<>();
     private final Map<String, boolean[]> quoted = new LinkedHashMap<>();
+    private final List<String> face = new ArrayList<>();
 
     Document() {
         String whole = read(Path.of("../shared/DOC.md"));
+        addFace(between(whole, "## The public face", "## Terms"));
         for (int i = 1; i <= TERMS; i++) {
             addSection("Term " + i, between(whole, "==== " + i + ".", i < TERMS ? "==== " + (i + 1) + "." : "## Promise 1:"));
         }
@@ -21,6 +25,17 @@ final class Document {
             String body = between(whole, "## Promise " + i + ":", i < PROMISES ? "## Promise " + (i + 1) + ":" : "## Not promised");
             addSection("Promise " + i, between(body, "`: ", null));
         }
+    }
+
+    /** The lines of the public face, without the sign at their end. */
+    List<String> face() {
+        return face;
+    }
+
+    /** The methods of the public face, as int post(), without the word public. */
+    List<String> methods() {
+        return face.stream().filter(line -> line.matches("public (int|boolean) .*\\)"))
+                .map(line -> line.substring("public ".length())).toList();
     }
 
     /** Whether the section has this sentence; where it stands is quoted then. */
@@ -59,6 +74,14 @@ final class Document {
         return left.toString();
     }
 
+    private void addFace(String text) {
+        for (String line : text.split("\n")) {
+            if (line.trim().endsWith(";")) {
+                face.add(line.trim().replace(";", ""));
+            }
+        }
+    }
+
     private void addSection(String name, String text) {
         String plain = text.replace("```text", " ").replace("```", " ").replaceAll("\\s+", " ").trim();
         texts.put(name, plain);
@@ -74,7 +97,7 @@ final class Document {
         return text.substring(from + start.length(), to);
     }
 
-    private static String read(Path path) {
+    static String read(Path path) {
         try {
             return Files.readString(path);
         } catch (IOException e) {

@@ -14,15 +14,6 @@ import java.util.regex.Pattern;
 /** The document's face, and those rules of LANGUAGE.md that can be seen in the source or the class. */
 public final class LanguageTest {
     private static final Path SOURCE = Path.of("src/main/java/FurPosts.java");
-    private static final String[] FACE = {
-        "int post()", "int way(int, int, int, int)", "int store(int, int, int)", "boolean load(int, int)",
-        "int send(int, int)", "int lose(int)", "boolean spoil(int, int, int)", "int go(int)",
-        "int sell(int, int, int, int)", "int buy(int, int, int, int)", "int give(int, int, int, int)",
-        "int owes(int, int)", "int price(int, int)", "int order(int, int, int, int)", "int debt(int, int, int)",
-        "int report(int, int)", "int known(int, int, int)", "int knownDay(int, int)", "int next(int, int)",
-        "boolean want(int, int, int)", "int indent(int, int, int, int)", "int cost(int, int, int, int, int)",
-        "int quarrel(int, int)", "int canoe(int, int)", "int told(int, int)", "int count(int, int)",
-    };
     private static final String[] FORBIDDEN = {
         "\\bthrow\\b", "\\bthrows\\b", "\\btry\\b", "\\bcatch\\b", "\\bsynchronized\\b", "\\bassert\\b", "::",
         "(?m)^(?!\\s*(case|default)\\b).*->", "\\bpackage\\b", "\\bstatic\\s*\\{", "Exact\\b", "\\bHashMap\\b",
@@ -36,6 +27,7 @@ public final class LanguageTest {
     private static final int MOST_CLASSES = 12;
     private static final int MOST_FIELDS = 20;
 
+    private static final Document DOCUMENT = new Document();
     private static final Check CHECK = new Check("LanguageTest");
 
     public static void main(String[] args) throws IOException {
@@ -49,9 +41,10 @@ public final class LanguageTest {
         CHECK.due("public final", FurPosts.class.getModifiers(), Modifier.PUBLIC | Modifier.FINAL);
         CHECK.due("constructors", FurPosts.class.getDeclaredConstructors().length, 1);
         CHECK.due("public constructors", FurPosts.class.getConstructors().length, 1);
-        TreeSet<String> faced = new TreeSet<>(Arrays.asList(FACE));
+        TreeSet<String> faced = new TreeSet<>();
         TreeSet<String> names = new TreeSet<>();
-        for (String method : FACE) {
+        for (String method : DOCUMENT.methods()) {
+            faced.add(method.replaceAll("(\\w+) \\w+(?=[,)])", "$1"));
             names.add(method.replaceAll("\\w+ (\\w+)\\(.*", "$1"));
         }
         int publics = 0;
@@ -62,7 +55,8 @@ public final class LanguageTest {
             CHECK.due("public or private: " + told(m), isPublic || Modifier.isPrivate(m.getModifiers()), true);
             CHECK.due("no private method has a public one's name: " + told(m), names.contains(m.getName()), isPublic);
         }
-        CHECK.due("methods of the face", publics, FACE.length);
+        CHECK.due("methods of the document's face", faced.size(), 26);
+        CHECK.due("methods of the class's face", publics, faced.size());
         for (Field f : FurPosts.class.getDeclaredFields()) {
             boolean isNone = f.getName().equals("NONE");
             CHECK.due("visible: " + f, Modifier.isPublic(f.getModifiers()), isNone);
@@ -103,6 +97,10 @@ public final class LanguageTest {
     }
 
     private static void source(String text) {
+        for (String line : DOCUMENT.face()) {
+            boolean isConstant = line.contains("=");
+            CHECK.due("in the source: " + line, text.contains("\n    " + line + (isConstant ? ";" : " {")), true);
+        }
         String code = text.replaceAll("(?s)/\\*.*?\\*/", "").replaceAll("//[^\n]*", "").replaceAll("\"[^\"\n]*\"", "");
         for (String forbidden : FORBIDDEN) {
             CHECK.due("not in the source: " + forbidden, Pattern.compile(forbidden).matcher(code).find(), false);
