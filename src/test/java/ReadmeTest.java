@@ -26,16 +26,30 @@ public final class ReadmeTest {
     private static final Check CHECK = new Check("ReadmeTest");
 
     public static void main(String[] args) throws IOException, ReflectiveOperationException {
-        exampleRuns();
-        answersOfExample();
+        if (exampleRuns()) {
+            answersOfExample();
+        }
         tableOfCalls();
         tableOfTests();
         CHECK.end();
     }
 
-    /** As the page says: the class's file and the example's, by one command. */
-    private static void exampleRuns() throws IOException, ReflectiveOperationException {
+    private static boolean exampleRuns() throws IOException, ReflectiveOperationException {
         Path out = Files.createTempDirectory("readme");
+        try {
+            int compiled = compileExample(out);
+            CHECK.due("javac of README.md's example", compiled, 0);
+            if (compiled == 0) {
+                runExample(out);
+            }
+            return compiled == 0;
+        } finally {
+            deleteAll(out);
+        }
+    }
+
+    /** As the page says: the class's file and the example's, by one command. */
+    private static int compileExample(Path out) throws IOException {
         Path example = out.resolve("Example.java");
         Files.writeString(example, "public final class Example {\n    public static void main(String[] args) {\n"
                 + String.join("\n", README.code()) + "\n    }\n}\n");
@@ -45,14 +59,15 @@ public final class ReadmeTest {
         }
         words.remove("javac");
         ToolProvider javac = ToolProvider.findFirst("javac").orElseThrow();
-        CHECK.due("javac of the example", javac.run(System.out, System.out, words.toArray(new String[0])), 0);
-        String[] run = README.typed("java .* Example").split(" ");
+        return javac.run(System.out, System.out, words.toArray(new String[0]));
+    }
+
+    private static void runExample(Path out) throws IOException, ReflectiveOperationException {
         URL[] path = {out.toUri().toURL()};
         try (URLClassLoader loader = new URLClassLoader(path, ClassLoader.getPlatformClassLoader())) {
-            Class<?> main = loader.loadClass(run[run.length - 1]);
-            main.getMethod("main", String[].class).invoke(null, (Object) new String[0]);
+            Class<?> example = loader.loadClass(README.typed("java .* Example").replaceAll(".* ", ""));
+            example.getMethod("main", String[].class).invoke(null, (Object) new String[0]);
         }
-        deleteAll(out);
     }
 
     private static void answersOfExample() {
